@@ -948,7 +948,7 @@ public final class CamMaker {
         private void findBent() {
             size = 0;
             for (int i = 0; i < plan.get(SEGMENTS); i++) {
-                // A SEGMENT of one STEP has its BORDER alone, and so takes the first LAW in the first row.
+                // A SEGMENT of one STEP is all BORDER: no LAW bends it, and the first row gives it the first one.
                 if (!plan.dwells(i) && plan.get(Plan.placeOf(i, LONG)) > 1 && size < bent.length) {
                     bent[size] = i;
                     size++;
@@ -959,9 +959,12 @@ public final class CamMaker {
 
         private void measureLink(int link) {
             int steps = plan.get(STEPS);
-            int next = link + 1 < size ? link + 1 : 0;
-            if (size == 0 || link < 0 || link >= bent.length || next >= bent.length) {
+            if (size == 0) {
                 measurePair(0, 0, steps);
+                return;
+            }
+            int next = link + 1 < size ? link + 1 : 0;
+            if (link < 0 || link >= bent.length || next >= bent.length) {
                 return;
             }
             int from = plan.longAheadOf(bent[link]);

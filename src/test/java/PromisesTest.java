@@ -182,9 +182,9 @@ public final class PromisesTest {
     private static void alter() {
         promise = 4;
         CamMaker x = sample();
-        int[][] others = {{-1, 0, 5}, {4, 0, 5}, {12, 0, 5}, {MIN, 0, 5}, {MAX, 0, 5}, {0, -1, 1}, {0, 3, 1}, {0, MIN, 1},
-            {0, MAX, 1}, {0, 0, 0}, {0, 0, 61}, {0, 0, MIN}, {0, 0, MAX}, {0, 1, -1}, {0, 1, 1000}, {0, 1, MIN},
-            {0, 1, MAX}, {0, 2, -1}, {0, 2, 4}, {0, 2, MIN}, {0, 2, MAX}, {0x55555556, 0, 1}};
+        int[][] others = {{-1, 0, 5}, {4, 0, 5}, {12, 0, 5}, {MIN, 0, 5}, {MAX, 0, 5}, {0, -1, 1}, {0, 3, 1},
+            {0, MIN, 1}, {0, MAX, 1}, {0, 0, 0}, {0, 0, 61}, {0, 0, MIN}, {0, 0, MAX}, {0, 1, -1}, {0, 1, 1000},
+            {0, 1, MIN}, {0, 1, MAX}, {0, 2, -1}, {0, 2, 4}, {0, 2, MIN}, {0, 2, MAX}, {0x55555556, 0, 1}};
         for (int[] o : others) {
             due("alter " + o[0] + " " + o[1] + " " + o[2], NONE, x.alter(o[0], o[1], o[2]));
         }
@@ -628,8 +628,8 @@ public final class PromisesTest {
     private static void shape() {
         promise = 21;
         CamMaker x = sample();
-        long[][] all = {{0, 500, 3, 29, 235518}, {3, 506, 7, 0, 256134}, {12, 512, -4, -30, 277536}, {18, 500, -4, 29, 235532},
-            {21, 500, 0, 0, 250000}};
+        long[][] all = {{0, 500, 3, 29, 235518}, {3, 506, 7, 0, 256134}, {12, 512, -4, -30, 277536},
+            {18, 500, -4, 29, 235532}, {21, 500, 0, 0, 250000}};
         for (long[] a : all) {
             for (int what = 0; what < 4; what++) {
                 due("shape " + a[0] + " " + what, a[what + 1], x.shape((int) a[0], what));
@@ -756,7 +756,8 @@ public final class PromisesTest {
     private static void press() {
         promise = 23;
         CamMaker x = sample();
-        int[][] all = {{0, 6}, {3, 13}, {5, 13}, {6, 5}, {9, 0}, {12, 7}, {13, 15}, {15, 15}, {17, 15}, {18, 8}, {21, 0}};
+        int[][] all = {{0, 6}, {3, 13}, {5, 13}, {6, 5}, {9, 0}, {12, 7}, {13, 15}, {15, 15}, {17, 15}, {18, 8},
+            {21, 0}};
         for (int[] a : all) {
             due("press " + a[0], a[1], x.press(a[0]));
         }
@@ -998,7 +999,7 @@ public final class PromisesTest {
         z.segment(3, 0, 3);
         due("eight are no DWELL", NONE, z.best(0));
         due("eight are no DWELL", NONE, z.best(12));
-        z.alter(0, 1, 0);
+        z.alter(3, 1, 3);
         due("seven are no DWELL", NONE, z.best(0));
         z.back();
         z.alter(7, 1, 1);
@@ -1032,12 +1033,17 @@ public final class PromisesTest {
             cam(0, new int[] {1, 50, 2}, new int[] {1, 40, 2}, new int[] {22, 0, 3}),
             cam(7, new int[] {2, 9, 0}, new int[] {1, 11, 1}, new int[] {2, 13, 3}, new int[] {17, 13, 3},
                 new int[] {2, 7, 2}),
+            cam(9, new int[] {7, 0, 1}, new int[] {1, 6, 1}, new int[] {7, 14, 1}, new int[] {9, 9, 0}),
             cam(3, new int[] {10, 3, 2}, new int[] {5, 30, 1}, new int[] {1, 31, 1}, new int[] {5, 3, 3},
                 new int[] {10, 3, 3})};
         for (int c = 0; c < cams.length; c++) {
             CamMaker x = cams[c];
             dueBestBySearch("cam " + c, x);
             x.steepest(150);
+            for (int i = 0; i < x.count(1); i++) {
+                // The LAWS by which the MARKS are MET; those of DWELLS are kept.
+                x.alter(i, 2, x.of(i, 5) == 1 ? x.of(i, 2) : i % 2);
+            }
             x.mark(3, x.lift(3), 1);
             x.mark(20, x.lift(20), 2);
             dueBestBySearch("cam " + c + " with MARKS", x);
@@ -1108,24 +1114,46 @@ public final class PromisesTest {
 
     private static void rollerBySearch() {
         promise = 30;
-        int[][] all = {{5, 300, 0, 10}, {12, 999, 0, 10}, {12, 999, 2, 10}, {8, 500, 1, 40}, {20, 30, 3, 10}, {3, 40, 3, 60},
-            {2, 200, 0, 200}, {7, 70, 2, 30}, {11, 999, 3, 300}, {1, 12, 0, 14}, {1, 60, 0, 300}};
+        int[][] all = {{5, 300, 0, 10}, {12, 999, 0, 10}, {12, 999, 2, 10}, {8, 500, 1, 40}, {20, 30, 3, 10},
+            {3, 40, 3, 60}, {2, 200, 0, 200}, {7, 70, 2, 30}, {11, 999, 3, 300}, {1, 12, 0, 14}, {1, 60, 0, 300}};
         for (int[] a : all) {
             CamMaker x = cam(0, new int[] {a[0], a[1], a[2]}, new int[] {24 - a[0], 0, a[2]});
             x.base(a[3]);
-            int most = x.limit(0);
-            int r = 1;
-            x.roller(r);
-            while (x.bad(0, NONE) + x.bad(1, NONE) == 0) {
-                r++;
-                x.roller(r);
-            }
-            due("limit 0 of a rise of " + a[1] + " in " + a[0], r - 1, most);
+            dueRoller("limit 0 of a rise of " + a[1] + " in " + a[0], x);
         }
+        // Here ROLLERS from 1 on have UNDERCUT 1, from some greater one on none, and far greater ones have 2.
+        CamMaker y = cam(0, new int[] {31, 0, 0}, new int[] {30, 0, 0}, new int[] {10, 10, 0}, new int[] {8, 26, 0},
+                new int[] {17, 60, 0}, new int[] {6, 84, 0}, new int[] {14, 140, 0}, new int[] {3, 152, 0},
+                new int[] {1, 0, 0});
+        y.base(30);
+        y.roller(47);
+        due("no UNDERCUT by 47", 0, y.bad(0, NONE) + y.bad(1, NONE));
+        dueRoller("limit 0 of a sharp peak", y);
+    }
+
+    private static void dueRoller(String what, CamMaker x) {
+        int most = x.limit(0);
+        int r = 1;
+        x.roller(1);
+        while (x.bad(0, NONE) + x.bad(1, NONE) == 0) {
+            r++;
+            x.roller(r);
+        }
+        due(what, r - 1, most);
     }
 
     private static void limitsAtTheirEnds() {
         promise = 30;
+        CamMaker t = cam(0, new int[] {59, 0, 0}, new int[] {1, 1, 0}, new int[] {1, 0, 0}, new int[] {59, 0, 0});
+        t.base(10);
+        due("limit 0, sharp at 120 STEPS", 0, t.limit(0));
+        CamMaker s = earlyPeak(0, 20);
+        s.base(1000);
+        due("limit 0 by STEP 0", 428, s.limit(0));
+        CamMaker r = peak(23, 1);
+        due("shape 0 1", -2, r.shape(0, 1));
+        r.steepest(0);
+        due("limit 1 by STEP 0", 1901, r.limit(1));
         CamMaker x = sample();
         x.base(1447);
         due("limit 0, 1 has one", 0, x.limit(0));
