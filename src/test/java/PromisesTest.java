@@ -1,42 +1,7 @@
-import java.util.NoSuchElementException;
+import java.util.Arrays;
 
 /** Each promise of the document by itself: ordinary calls, the edges that it names, and wrong inputs. */
-public final class PromisesTest {
-    private static final int MIN = Integer.MIN_VALUE;
-    private static final int MAX = Integer.MAX_VALUE;
-    private static final int NONE = -1;
-
-    private static int promise;
-    private static int wrong = 0;
-    private static int asked = 0;
-
-    private interface Call {
-        long on();
-    }
-
-    private static void due(String call, long want, long got) {
-        asked++;
-        if (got != want) {
-            wrong++;
-            System.out.println("promise " + promise + ": " + call + " answered " + got + ", due is " + want);
-        }
-    }
-
-    private static void due(String call, boolean want, boolean got) {
-        due(call, want ? 1 : 0, got ? 1 : 0);
-    }
-
-    private static void dueThrow(String call, Call c) {
-        asked++;
-        try {
-            long got = c.on();
-            wrong++;
-            System.out.println("promise " + promise + ": " + call + " answered " + got + ", due is an exception");
-        } catch (NoSuchElementException e) {
-            return;
-        }
-    }
-
+public final class PromisesTest extends Checks {
     public static void main(String[] args) {
         newObject();
         steps();
@@ -70,30 +35,7 @@ public final class PromisesTest {
         limitsAtTheirEnds();
         count();
         good();
-        System.out.println(asked + " answers asked, " + wrong + " are not as due");
-        if (wrong != 0) {
-            System.exit(1);
-        }
-    }
-
-    /** LIFT 0 2 4 6 8 10, six times 12, 12 10 8 6 4 2, six times 0. */
-    private static CamMaker sample() {
-        CamMaker x = new CamMaker();
-        x.segment(6, 12, 0);
-        x.segment(6, 12, 0);
-        x.segment(6, 0, 0);
-        x.segment(6, 0, 3);
-        return x;
-    }
-
-    /** LIFT 0 at all STEPS but the one of that number, which has the LIFT told. */
-    private static CamMaker peak(int step, int lift) {
-        CamMaker x = new CamMaker();
-        x.segment(step - 1, 0, 0);
-        x.segment(1, lift, 0);
-        x.segment(1, 0, 0);
-        x.segment(23 - step, 0, 0);
-        return x;
+        end();
     }
 
     private static void dueLifts(String what, CamMaker x, int from, int... lifts) {
@@ -103,7 +45,7 @@ public final class PromisesTest {
     }
 
     private static void newObject() {
-        promise = 1;
+        about("promise 1");
         CamMaker x = new CamMaker();
         due("NONE", -1, CamMaker.NONE);
         int[] first = {24, 0, 0, 400, 100, 1000, 10, 10, 100, 577, 1, 0, 0, 0, 0, 0};
@@ -119,8 +61,8 @@ public final class PromisesTest {
     }
 
     private static void steps() {
-        promise = 2;
-        CamMaker x = sample();
+        about("promise 2");
+        CamMaker x = Cams.sample();
         x.start(7);
         x.base(33);
         x.mark(3, 6, 0);
@@ -153,7 +95,7 @@ public final class PromisesTest {
     }
 
     private static void segment() {
-        promise = 3;
+        about("promise 3");
         CamMaker x = new CamMaker();
         int[][] others = {{0, 5, 0}, {61, 5, 0}, {-1, 5, 0}, {MIN, 5, 0}, {MAX, 5, 0}, {5, -1, 0}, {5, 1000, 0},
             {5, MIN, 0}, {5, MAX, 0}, {5, 5, -1}, {5, 5, 4}, {5, 5, MIN}, {5, 5, MAX}};
@@ -180,8 +122,8 @@ public final class PromisesTest {
     }
 
     private static void alter() {
-        promise = 4;
-        CamMaker x = sample();
+        about("promise 4");
+        CamMaker x = Cams.sample();
         int[][] others = {{-1, 0, 5}, {4, 0, 5}, {12, 0, 5}, {MIN, 0, 5}, {MAX, 0, 5}, {0, -1, 1}, {0, 3, 1},
             {0, MIN, 1}, {0, MAX, 1}, {0, 0, 0}, {0, 0, 61}, {0, 0, MIN}, {0, 0, MAX}, {0, 1, -1}, {0, 1, 1000},
             {0, 1, MIN}, {0, 1, MAX}, {0, 2, -1}, {0, 2, 4}, {0, 2, MIN}, {0, 2, MAX}, {0x55555556, 0, 1}};
@@ -208,8 +150,8 @@ public final class PromisesTest {
     }
 
     private static void drop() {
-        promise = 5;
-        CamMaker x = sample();
+        about("promise 5");
+        CamMaker x = Cams.sample();
         due("drop", 3, x.drop());
         due("count 15", 18, x.count(15));
         due("of 3 0", NONE, x.of(3, 0));
@@ -240,7 +182,7 @@ public final class PromisesTest {
     }
 
     private static void setting(int number, int setting, int first, int least, int greatest) {
-        promise = number;
+        about("promise " + number);
         CamMaker x = new CamMaker();
         for (int v : new int[] {least - 1, greatest + 1, -1 - least, MIN, MAX}) {
             due("set to " + v, NONE, put(x, setting, v));
@@ -265,8 +207,8 @@ public final class PromisesTest {
         setting(10, 8, 100, 0, 9999);
         setting(11, 9, 577, 0, 9999);
         setting(12, 10, 1, 0, 99);
-        promise = 6;
-        CamMaker x = sample();
+        about("promise 6");
+        CamMaker x = Cams.sample();
         x.start(12);
         due("lift, not WHOLE", NONE, x.lift(0));
         x.alter(3, 1, 12);
@@ -276,7 +218,7 @@ public final class PromisesTest {
     }
 
     private static void spring() {
-        promise = 9;
+        about("promise 9");
         CamMaker x = new CamMaker();
         int[][] others = {{-1, 1, 1}, {100000, 1, 1}, {MIN, 1, 1}, {MAX, 1, 1}, {1, -1, 1}, {1, 1000, 1}, {1, MIN, 1},
             {1, MAX, 1}, {1, 1, 0}, {1, 1, 1000}, {1, 1, -1}, {1, 1, MIN}, {1, 1, MAX}};
@@ -301,7 +243,7 @@ public final class PromisesTest {
     }
 
     private static void mark() {
-        promise = 13;
+        about("promise 13");
         CamMaker x = new CamMaker();
         int[][] others = {{-1, 1, 1}, {24, 1, 1}, {MIN, 1, 1}, {MAX, 1, 1}, {1, -1, 1}, {1, 1000, 1}, {1, MIN, 1},
             {1, MAX, 1}, {1, 1, -1}, {1, 1, 100}, {1, 1, MIN}, {1, 1, MAX}};
@@ -324,7 +266,7 @@ public final class PromisesTest {
     }
 
     private static void unmark() {
-        promise = 14;
+        about("promise 14");
         CamMaker x = new CamMaker();
         due("unmark, none there", false, x.unmark(0));
         for (int i = 0; i < 8; i++) {
@@ -352,7 +294,7 @@ public final class PromisesTest {
     }
 
     private static void back() {
-        promise = 15;
+        about("promise 15");
         CamMaker x = new CamMaker();
         for (int i = 1; i <= 25; i++) {
             x.start(i);
@@ -386,8 +328,8 @@ public final class PromisesTest {
     }
 
     private static void backOfEachKind() {
-        promise = 15;
-        CamMaker x = sample();
+        about("promise 15");
+        CamMaker x = Cams.sample();
         x.mark(3, 6, 1);
         x.alter(2, 2, 1);
         x.drop();
@@ -431,7 +373,7 @@ public final class PromisesTest {
     }
 
     private static void of() {
-        promise = 16;
+        about("promise 16");
         CamMaker x = new CamMaker();
         x.start(5);
         x.segment(20, 5, 1);
@@ -457,8 +399,8 @@ public final class PromisesTest {
     }
 
     private static void lift() {
-        promise = 17;
-        CamMaker x = sample();
+        about("promise 17");
+        CamMaker x = Cams.sample();
         dueLifts("EVEN", x, 0, 0, 2, 4, 6, 8, 10, 12, 12, 12, 12, 12, 12, 12, 10, 8, 6, 4, 2, 0, 0, 0, 0, 0, 0);
         for (int step : new int[] {-1, 24, 25, 120, MIN, MAX}) {
             due("lift " + step, NONE, x.lift(step));
@@ -523,8 +465,8 @@ public final class PromisesTest {
     }
 
     private static void diff() {
-        promise = 18;
-        CamMaker x = sample();
+        about("promise 18");
+        CamMaker x = Cams.sample();
         int[][] all = {{0, 1, 2}, {5, 1, 2}, {6, 1, 0}, {12, 1, -2}, {17, 1, -2}, {23, 1, 0}, {0, 2, 2}, {1, 2, 0},
             {6, 2, -2}, {12, 2, -2}, {18, 2, 2}, {23, 2, 0}, {0, 3, -2}, {5, 3, -2}, {6, 3, 2}, {11, 3, -2}, {12, 3, 2},
             {17, 3, 2}, {18, 3, -2}, {22, 3, 0}, {23, 3, 2}};
@@ -537,7 +479,7 @@ public final class PromisesTest {
         for (int which : new int[] {-1, 0, 4, 11, MIN, MAX}) {
             dueThrow("diff 0 " + which, () -> x.diff(0, which));
         }
-        CamMaker y = peak(23, 999);
+        CamMaker y = Cams.peak(23, 999);
         due("diff 22 1", 999, y.diff(22, 1));
         due("diff 23 1, round to STEP 0", -999, y.diff(23, 1));
         due("diff 23 2", -1998, y.diff(23, 2));
@@ -549,15 +491,15 @@ public final class PromisesTest {
     }
 
     private static void most() {
-        promise = 19;
-        CamMaker x = sample();
+        about("promise 19");
+        CamMaker x = Cams.sample();
         int[][] all = {{2, 0, 12}, {2, 0, 4}, {2, 0, 8}};
         for (int which = 1; which <= 3; which++) {
             for (int what = 0; what < 3; what++) {
                 due("most " + which + " " + what, all[which - 1][what], x.most(which, what));
             }
         }
-        CamMaker y = peak(5, 7);
+        CamMaker y = Cams.peak(5, 7);
         due("most 1 0", 7, y.most(1, 0));
         due("most 1 1", 4, y.most(1, 1));
         due("most 1 2", 2, y.most(1, 2));
@@ -583,8 +525,8 @@ public final class PromisesTest {
     }
 
     private static void border() {
-        promise = 20;
-        CamMaker x = sample();
+        about("promise 20");
+        CamMaker x = Cams.sample();
         due("border 0", 0, x.border(0));
         x.slack(2);
         for (int segment = 0; segment < 4; segment++) {
@@ -626,8 +568,8 @@ public final class PromisesTest {
     }
 
     private static void shape() {
-        promise = 21;
-        CamMaker x = sample();
+        about("promise 21");
+        CamMaker x = Cams.sample();
         long[][] all = {{0, 500, 3, 29, 235518}, {3, 506, 7, 0, 256134}, {12, 512, -4, -30, 277536},
             {18, 500, -4, 29, 235532}, {21, 500, 0, 0, 250000}};
         for (long[] a : all) {
@@ -663,8 +605,8 @@ public final class PromisesTest {
     }
 
     private static void undercut() {
-        promise = 22;
-        CamMaker x = sample();
+        about("promise 22");
+        CamMaker x = Cams.sample();
         for (int i = 0; i < 24; i++) {
             due("undercut " + i, 0, x.undercut(i));
         }
@@ -706,7 +648,7 @@ public final class PromisesTest {
         x.roller(1439);
         due("a FAR of 1449 by ROLLER alone", 2, x.undercut(0));
         // The third power is a long here, but ROLLER ROLLER BEND BEND is none any longer from ROLLER 92 on.
-        CamMaker y = peak(5, 999);
+        CamMaker y = Cams.peak(5, 999);
         y.base(10);
         y.roller(91);
         due("shape 5 3", 1100L * 1100 + 1100L * 29152, y.shape(5, 3));
@@ -731,7 +673,7 @@ public final class PromisesTest {
 
     private static void equalPowers() {
         // With V 0 and A -292, twice BASE and LIFT, the two powers are equal by a ROLLER of 146.
-        CamMaker x = peak(5, 10);
+        CamMaker x = Cams.peak(5, 10);
         x.base(136);
         x.roller(146);
         due("shape 5 2", -292, x.shape(5, 2));
@@ -754,8 +696,8 @@ public final class PromisesTest {
     }
 
     private static void press() {
-        promise = 23;
-        CamMaker x = sample();
+        about("promise 23");
+        CamMaker x = Cams.sample();
         int[][] all = {{0, 6}, {3, 13}, {5, 13}, {6, 5}, {9, 0}, {12, 7}, {13, 15}, {15, 15}, {17, 15}, {18, 8},
             {21, 0}};
         for (int[] a : all) {
@@ -773,8 +715,8 @@ public final class PromisesTest {
     }
 
     private static void force() {
-        promise = 24;
-        CamMaker x = sample();
+        about("promise 24");
+        CamMaker x = Cams.sample();
         long[][] all = {{0, 1200}, {1, 1020}, {6, 920}, {9, 1120}, {12, 920}, {18, 1200}, {21, 1000}};
         for (long[] a : all) {
             due("force " + a[0], a[1], x.force((int) a[0]));
@@ -787,7 +729,7 @@ public final class PromisesTest {
         for (int step : new int[] {-1, 24, MIN, MAX}) {
             dueThrow("force " + step, () -> x.force(step));
         }
-        CamMaker y = peak(5, 999);
+        CamMaker y = Cams.peak(5, 999);
         y.spring(99999, 999, 999);
         y.speed(9999);
         due("force 5", 99999 + 999 * 999 + Math.floorDiv(999L * 9999 * 9999 * -1998, 1000L), y.force(5));
@@ -799,8 +741,8 @@ public final class PromisesTest {
     }
 
     private static void bad() {
-        promise = 25;
-        CamMaker x = sample();
+        about("promise 25");
+        CamMaker x = Cams.sample();
         for (int what = 0; what < 4; what++) {
             due("bad " + what + " NONE", 0, x.bad(what, NONE));
             due("bad " + what + " 0", NONE, x.bad(what, 0));
@@ -834,16 +776,10 @@ public final class PromisesTest {
         due("bad, not WHOLE", NONE, x.bad(1, 0));
     }
 
-    /** A peak of one STEP at STEP 0, or at 1. */
-    private static CamMaker earlyPeak(int step, int lift) {
-        return step == 0 ? cam(lift, new int[] {1, 0, 0}, new int[] {22, 0, 0}, new int[] {1, lift, 0})
-                : cam(0, new int[] {1, lift, 0}, new int[] {1, 0, 0}, new int[] {22, 0, 0});
-    }
-
     private static void firstSteps() {
-        promise = 25;
+        about("promise 25");
         for (int step = 0; step < 2; step++) {
-            CamMaker x = earlyPeak(step, 50);
+            CamMaker x = Cams.earlyPeak(step, 50);
             x.spring(1, 0, 1);
             dueBad(x, 3, step);
             due("least FORCE", step, x.top(2));
@@ -859,7 +795,7 @@ public final class PromisesTest {
             dueBad(x, 0, step);
             due("greatest LIFT", 50, x.top(3));
         }
-        CamMaker y = sample();
+        CamMaker y = Cams.sample();
         y.spring(0, 0, 1);
         y.speed(0);
         dueBad(y, 3);
@@ -876,8 +812,8 @@ public final class PromisesTest {
     }
 
     private static void top() {
-        promise = 26;
-        CamMaker x = sample();
+        about("promise 26");
+        CamMaker x = Cams.sample();
         int[] all = {15, 13, 6, 12, 6, 144};
         for (int what = 0; what < 6; what++) {
             due("top " + what, all[what], x.top(what));
@@ -885,7 +821,7 @@ public final class PromisesTest {
         for (int what : new int[] {-1, 6, MIN, MAX}) {
             due("top " + what, NONE, x.top(what));
         }
-        CamMaker y = peak(5, 999);
+        CamMaker y = Cams.peak(5, 999);
         due("top 0", 3816, y.top(0));
         due("top 1", 6, y.top(1));
         due("top 2", 5, y.top(2));
@@ -906,8 +842,8 @@ public final class PromisesTest {
     }
 
     private static void met() {
-        promise = 27;
-        CamMaker x = sample();
+        about("promise 27");
+        CamMaker x = Cams.sample();
         due("met, no MARKS", 0, x.met());
         x.mark(3, 6, 0);
         x.mark(3, 7, 0);
@@ -927,8 +863,8 @@ public final class PromisesTest {
     }
 
     private static void marked() {
-        promise = 28;
-        CamMaker x = sample();
+        about("promise 28");
+        CamMaker x = Cams.sample();
         x.mark(3, 9, 20);
         x.mark(13, 2, 5);
         int[][] all = {{3, 9, 20, 3}, {13, 2, 5, 8}};
@@ -964,8 +900,8 @@ public final class PromisesTest {
     }
 
     private static void best() {
-        promise = 29;
-        CamMaker x = sample();
+        about("promise 29");
+        CamMaker x = Cams.sample();
         dueBest("sample", x, 1, 1, 1, 1, 0, 1, 3);
         due("the LAWS stay", 0, x.of(0, 2));
         due("nothing was done", 4, x.count(14));
@@ -984,7 +920,7 @@ public final class PromisesTest {
         x.start(12);
         x.unmark(0);
         dueBest("all DWELL", x, 0, 0, 1, 0, 0, 0, 3);
-        CamMaker y = peak(5, 5);
+        CamMaker y = Cams.peak(5, 5);
         y.alter(1, 2, 2);
         y.alter(2, 2, 3);
         dueBest("SEGMENTS of one STEP", y, 10, 15, 1, 0, 0, 0, 0);
@@ -1008,33 +944,19 @@ public final class PromisesTest {
         due("six are no DWELL again", 3, z.best(7));
     }
 
-    private static CamMaker cam(int start, int[]... segments) {
-        CamMaker x = new CamMaker();
-        int steps = 0;
-        for (int[] segment : segments) {
-            steps += segment[0];
-        }
-        x.steps(steps);
-        x.start(start);
-        for (int[] segment : segments) {
-            x.segment(segment[0], segment[1], segment[2]);
-        }
-        return x;
-    }
-
     private static void bestBySearch() {
-        promise = 29;
+        about("promise 29");
         CamMaker[] cams = {
-            cam(0, new int[] {8, 40, 0}, new int[] {7, 90, 0}, new int[] {9, 30, 0}, new int[] {8, 0, 0}),
-            cam(0, new int[] {8, 5, 0}, new int[] {7, 6, 0}, new int[] {9, 7, 0}, new int[] {8, 0, 0}),
-            cam(9, new int[] {30, 300, 0}, new int[] {20, 10, 0}, new int[] {2, 11, 0}, new int[] {28, 9, 0}),
-            cam(20, new int[] {8, 0, 0}, new int[] {8, 20, 0}, new int[] {8, 0, 0}, new int[] {8, 20, 2}),
-            cam(0, new int[] {23, 50, 0}, new int[] {1, 0, 3}),
-            cam(0, new int[] {1, 50, 2}, new int[] {1, 40, 2}, new int[] {22, 0, 3}),
-            cam(7, new int[] {2, 9, 0}, new int[] {1, 11, 1}, new int[] {2, 13, 3}, new int[] {17, 13, 3},
+            Cams.cam(0, new int[] {8, 40, 0}, new int[] {7, 90, 0}, new int[] {9, 30, 0}, new int[] {8, 0, 0}),
+            Cams.cam(0, new int[] {8, 5, 0}, new int[] {7, 6, 0}, new int[] {9, 7, 0}, new int[] {8, 0, 0}),
+            Cams.cam(9, new int[] {30, 300, 0}, new int[] {20, 10, 0}, new int[] {2, 11, 0}, new int[] {28, 9, 0}),
+            Cams.cam(20, new int[] {8, 0, 0}, new int[] {8, 20, 0}, new int[] {8, 0, 0}, new int[] {8, 20, 2}),
+            Cams.cam(0, new int[] {23, 50, 0}, new int[] {1, 0, 3}),
+            Cams.cam(0, new int[] {1, 50, 2}, new int[] {1, 40, 2}, new int[] {22, 0, 3}),
+            Cams.cam(7, new int[] {2, 9, 0}, new int[] {1, 11, 1}, new int[] {2, 13, 3}, new int[] {17, 13, 3},
                 new int[] {2, 7, 2}),
-            cam(9, new int[] {7, 0, 1}, new int[] {1, 6, 1}, new int[] {7, 14, 1}, new int[] {9, 9, 0}),
-            cam(3, new int[] {10, 3, 2}, new int[] {5, 30, 1}, new int[] {1, 31, 1}, new int[] {5, 3, 3},
+            Cams.cam(9, new int[] {7, 0, 1}, new int[] {1, 6, 1}, new int[] {7, 14, 1}, new int[] {9, 9, 0}),
+            Cams.cam(3, new int[] {10, 3, 2}, new int[] {5, 30, 1}, new int[] {1, 31, 1}, new int[] {5, 3, 3},
                 new int[] {10, 3, 3})};
         for (int c = 0; c < cams.length; c++) {
             CamMaker x = cams[c];
@@ -1053,39 +975,49 @@ public final class PromisesTest {
         }
     }
 
-    /** BEST told by trying all rows on the object itself, by alter() and the calls that tell what is GOOD. */
+    /** BEST told by trying all rows, each on a new object, by the calls that tell what is GOOD. */
     private static void dueBestBySearch(String what, CamMaker x) {
-        int n = x.count(1);
-        int[] laws = new int[n];
-        for (int i = 0; i < n; i++) {
-            laws[i] = x.of(i, 5) == 1 ? x.of(i, 2) : 0;
-        }
+        Told told = new Told(x);
+        int n = told.segments();
         int[] best = null;
         boolean more = true;
+        for (int i = 0; i < n; i++) {
+            told.setLaw(i, told.dwells(i) ? told.law(i) : 0);
+        }
         while (more) {
-            for (int i = 0; i < n; i++) {
-                x.alter(i, 2, laws[i]);
-            }
-            int[] found = {x.most(2, 0), x.most(3, 0), x.count(13)};
-            if (best == null || found[2] > best[n + 2] || found[2] == best[n + 2]
-                    && (found[0] < best[n] || found[0] == best[n] && found[1] < best[n + 1])) {
-                best = java.util.Arrays.copyOf(laws, n + 3);
-                System.arraycopy(found, 0, best, n, 3);
+            int[] found = rowOf(told);
+            if (best == null || found[n + 2] > best[n + 2] || found[n + 2] == best[n + 2]
+                    && (found[n] < best[n] || found[n] == best[n] && found[n + 1] < best[n + 1])) {
+                best = found;
             }
             more = false;
             for (int i = n - 1; i >= 0 && !more; i--) {
-                if (x.of(i, 5) == 0) {
-                    laws[i] = (laws[i] + 1) % 4;
-                    more = laws[i] != 0;
+                if (!told.dwells(i)) {
+                    told.setLaw(i, (told.law(i) + 1) % 4);
+                    more = told.law(i) != 0;
                 }
             }
         }
-        dueBest(what, x, best[n], best[n + 1], best[n + 2], java.util.Arrays.copyOf(best, n));
+        dueBest(what, x, best[n], best[n + 1], best[n + 2], Arrays.copyOf(best, n));
+    }
+
+    /** All LAWS, then the greatest sizes of SECOND and THIRD by them, then whether it is GOOD. */
+    private static int[] rowOf(Told told) {
+        CamMaker x = told.make();
+        int n = told.segments();
+        int[] row = new int[n + 3];
+        for (int i = 0; i < n; i++) {
+            row[i] = told.law(i);
+        }
+        row[n] = x.most(2, 0);
+        row[n + 1] = x.most(3, 0);
+        row[n + 2] = x.count(13);
+        return row;
     }
 
     private static void limit() {
-        promise = 30;
-        CamMaker x = sample();
+        about("promise 30");
+        CamMaker x = Cams.sample();
         due("limit 0", 1036, x.limit(0));
         due("limit 1", 10, x.limit(1));
         due("limit 2", 236, x.limit(2));
@@ -1113,16 +1045,16 @@ public final class PromisesTest {
     }
 
     private static void rollerBySearch() {
-        promise = 30;
+        about("promise 30");
         int[][] all = {{5, 300, 0, 10}, {12, 999, 0, 10}, {12, 999, 2, 10}, {8, 500, 1, 40}, {20, 30, 3, 10},
             {3, 40, 3, 60}, {2, 200, 0, 200}, {7, 70, 2, 30}, {11, 999, 3, 300}, {1, 12, 0, 14}, {1, 60, 0, 300}};
         for (int[] a : all) {
-            CamMaker x = cam(0, new int[] {a[0], a[1], a[2]}, new int[] {24 - a[0], 0, a[2]});
+            CamMaker x = Cams.cam(0, new int[] {a[0], a[1], a[2]}, new int[] {24 - a[0], 0, a[2]});
             x.base(a[3]);
             dueRoller("limit 0 of a rise of " + a[1] + " in " + a[0], x);
         }
         // Here ROLLERS from 1 on have UNDERCUT 1, from some greater one on none, and far greater ones have 2.
-        CamMaker y = cam(0, new int[] {31, 0, 0}, new int[] {30, 0, 0}, new int[] {10, 10, 0}, new int[] {8, 26, 0},
+        CamMaker y = Cams.cam(0, new int[] {31, 0, 0}, new int[] {30, 0, 0}, new int[] {10, 10, 0}, new int[] {8, 26, 0},
                 new int[] {17, 60, 0}, new int[] {6, 84, 0}, new int[] {14, 140, 0}, new int[] {3, 152, 0},
                 new int[] {1, 0, 0});
         y.base(30);
@@ -1133,35 +1065,38 @@ public final class PromisesTest {
 
     private static void dueRoller(String what, CamMaker x) {
         int most = x.limit(0);
-        int r = 1;
-        x.roller(1);
-        while (x.bad(0, NONE) + x.bad(1, NONE) == 0) {
+        Told told = new Told(x);
+        int r = 0;
+        boolean clear = true;
+        while (clear) {
             r++;
-            x.roller(r);
+            CamMaker y = told.make();
+            y.roller(r);
+            clear = y.bad(0, NONE) + y.bad(1, NONE) == 0;
         }
         due(what, r - 1, most);
     }
 
     private static void limitsAtTheirEnds() {
-        promise = 30;
-        CamMaker t = cam(0, new int[] {59, 0, 0}, new int[] {1, 1, 0}, new int[] {1, 0, 0}, new int[] {59, 0, 0});
+        about("promise 30");
+        CamMaker t = Cams.cam(0, new int[] {59, 0, 0}, new int[] {1, 1, 0}, new int[] {1, 0, 0}, new int[] {59, 0, 0});
         t.base(10);
         due("limit 0, sharp at 120 STEPS", 0, t.limit(0));
-        CamMaker s = earlyPeak(0, 20);
+        CamMaker s = Cams.earlyPeak(0, 20);
         s.base(1000);
         due("limit 0 by STEP 0", 428, s.limit(0));
-        CamMaker r = peak(23, 1);
+        CamMaker r = Cams.peak(23, 1);
         due("shape 0 1", -2, r.shape(0, 1));
         r.steepest(0);
         due("limit 1 by STEP 0", 1901, r.limit(1));
-        CamMaker x = sample();
+        CamMaker x = Cams.sample();
         x.base(1447);
         due("limit 0, 1 has one", 0, x.limit(0));
         x.base(9999);
         due("limit 0, 1 has one", 0, x.limit(0));
         x.steepest(0);
         due("limit 1 by 0, before PRESS is below 1", 7901 - 2, x.limit(1));
-        CamMaker y = peak(5, 999);
+        CamMaker y = Cams.peak(5, 999);
         y.steepest(0);
         due("limit 1, none", NONE, y.limit(1));
         y.roller(9999);
@@ -1170,7 +1105,7 @@ public final class PromisesTest {
         due("limit 2 by no LOAD", 706, y.limit(2));
         y.spring(0, 0, 1);
         due("limit 2 by no LOAD, no RATE", 0, y.limit(2));
-        CamMaker w = cam(0, new int[] {6, 6, 0}, new int[] {12, 6, 0}, new int[] {6, 0, 0});
+        CamMaker w = Cams.cam(0, new int[] {6, 6, 0}, new int[] {12, 6, 0}, new int[] {6, 0, 0});
         w.spring(10, 0, 1);
         due("limit 2: SPEED SPEED is 1000 times LOAD", 100, w.limit(2));
         w.spring(9, 0, 1);
@@ -1178,7 +1113,7 @@ public final class PromisesTest {
         w.spring(99999, 0, 1);
         due("limit 2, beyond 9999", 9999, w.limit(2));
         // V of STEP 0 alone is -2: by STEEPEST 0 its FAR has to be 2001.
-        CamMaker v = cam(1, new int[] {1, 0, 0}, new int[] {22, 0, 0}, new int[] {1, 1, 0});
+        CamMaker v = Cams.cam(1, new int[] {1, 0, 0}, new int[] {22, 0, 0}, new int[] {1, 1, 0});
         due("shape 1 1", -2, v.shape(1, 1));
         v.steepest(0);
         due("limit 1", 1901, v.limit(1));
@@ -1187,7 +1122,7 @@ public final class PromisesTest {
         dueBad(v, 2);
         v.base(1900);
         dueBad(v, 2, 1);
-        CamMaker u = peak(5, 30);
+        CamMaker u = Cams.peak(5, 30);
         u.steepest(5);
         u.roller(1);
         due("shape 6 1", -58, u.shape(6, 1));
@@ -1210,8 +1145,8 @@ public final class PromisesTest {
     }
 
     private static void count() {
-        promise = 31;
-        CamMaker x = sample();
+        about("promise 31");
+        CamMaker x = Cams.sample();
         x.start(0);
         x.base(410);
         x.roller(110);
@@ -1240,8 +1175,8 @@ public final class PromisesTest {
     }
 
     private static void good() {
-        promise = 31;
-        CamMaker x = sample();
+        about("promise 31");
+        CamMaker x = Cams.sample();
         due("GOOD", 1, x.count(13));
         x.base(10);
         due("GOOD with UNDERCUT 1", 0, x.count(13));
