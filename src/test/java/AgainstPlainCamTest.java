@@ -4,6 +4,9 @@ import java.util.Random;
 /** Long runs of calls, the same ones each time, on the class and on PlainCam: all answers must be the same. */
 public final class AgainstPlainCamTest {
     private static final long THROWN = Long.MIN_VALUE;
+    // An object answers as promised for so many calls; a cam is made WHOLE by steps(), start() and 12 SEGMENTS at most.
+    private static final int MOST_CALLS = 512;
+    private static final int MOST_TO_MAKE_WHOLE = 14;
     private static final int[] NARROW = {0, 0, 10, 400, 100, 1000, 10, 10, 100, 577, 1};
     private static final int[] HIGH = {120, 12, 999, 9999, 9999, 99999, 999, 999, 9999, 9999, 99};
     private static final int[] EDGES = {Integer.MIN_VALUE, Integer.MIN_VALUE + 1, -61, -2, -1, 0, 1, 2, 3, 4, 5, 8, 9,
@@ -60,7 +63,7 @@ public final class AgainstPlainCamTest {
         calls = 0;
         int manner = below(10);
         lifts = manner < 4 ? 40 : manner < 7 ? 200 : 1000;
-        while (calls < 500 && wrong == 0) {
+        while (calls <= MOST_CALLS - MOST_TO_MAKE_WHOLE && wrong == 0) {
             int kind = below(20);
             if (kind == 0) {
                 makeWhole();
@@ -76,11 +79,11 @@ public final class AgainstPlainCamTest {
 
     /** BEST of a cam with five or six SEGMENTS that are no DWELL, all of it by one search of the plain one. */
     private void compareWideBest() {
-        cam = new CamMaker();
-        plain = new PlainCam();
         lifts = run.hashCode() % 2 == 0 ? 30 : 300;
         int moving = 0;
         while (moving < 5 || moving > 6) {
+            cam = new CamMaker();
+            plain = new PlainCam();
             makeWhole();
             moving = countMoving();
         }
@@ -88,10 +91,10 @@ public final class AgainstPlainCamTest {
         set(8, below(200));
         for (int i = below(4); i > 0; i--) {
             int step = below(24);
-            mark(step, Math.min(999, cam.lift(step) + below(3)), below(10));
+            mark(step, Math.min(999, plain.lift(step) + below(3)), below(10));
         }
         int[] best = plain.allBest();
-        int n = cam.count(1);
+        int n = plain.count(1);
         for (int what = 0; what < n + 3; what++) {
             int asked = what < n ? what : 12 + what - n;
             same("best " + asked, of(cam.best(asked), best[what]));
@@ -100,8 +103,8 @@ public final class AgainstPlainCamTest {
 
     private int countMoving() {
         int moving = 0;
-        for (int i = 0; i < cam.count(1); i++) {
-            moving += 1 - cam.of(i, 5);
+        for (int i = 0; i < plain.count(1); i++) {
+            moving += 1 - plain.of(i, 5);
         }
         return moving;
     }

@@ -47,6 +47,32 @@ abstract class Checks {
         }
     }
 
+    /** LIFTS from a STEP on. */
+    static void dueLifts(String what, CamMaker x, int from, int... lifts) {
+        for (int i = 0; i < lifts.length; i++) {
+            due(what + ", lift " + (from + i), lifts[i], x.lift(from + i));
+        }
+    }
+
+    /** BEST laws, and what goes with them. */
+    static void dueBest(String what, CamMaker x, int second, int third, int good, int... laws) {
+        for (int i = 0; i < 12; i++) {
+            due(what + ": best " + i, i < laws.length ? laws[i] : NONE, x.best(i));
+        }
+        due(what + ": best 12", second, x.best(12));
+        due(what + ": best 13", third, x.best(13));
+        due(what + ": best 14", good, x.best(14));
+    }
+
+    /** All the bad STEPS of a kind, how many there are, and that there is none behind them. */
+    static void dueBad(CamMaker x, int what, int... steps) {
+        due("bad " + what + " NONE", steps.length, x.bad(what, NONE));
+        for (int i = 0; i < steps.length; i++) {
+            due("bad " + what + " " + i, steps[i], x.bad(what, i));
+        }
+        due("bad " + what + " " + steps.length, NONE, x.bad(what, steps.length));
+    }
+
     static void end() {
         System.out.println(asked + " answers asked, " + wrong + " are not as due");
         if (wrong != 0 || asked == 0) {

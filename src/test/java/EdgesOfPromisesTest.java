@@ -428,14 +428,6 @@ public final class EdgesOfPromisesTest extends Checks {
         }
     }
 
-    private static void dueBad(CamMaker x, int what, int... steps) {
-        due("bad " + what + " NONE", steps.length, x.bad(what, NONE));
-        for (int i = 0; i < steps.length; i++) {
-            due("bad " + what + " " + i, steps[i], x.bad(what, i));
-        }
-        due("bad " + what + " " + steps.length, NONE, x.bad(what, steps.length));
-    }
-
     private static void iThOfTheBad() {
         about("promise 25: the i-th such STEP (from 0), how many (i NONE); NONE: none such");
         for (int what = 0; what < 4; what++) {

@@ -376,10 +376,7 @@ public final class EdgesOfTermsTest extends Checks {
         for (int law = 0; law < 4; law++) {
             CamMaker x = Cams.cam(999, new int[] {1, 0, law}, new int[] {2, 999, law}, new int[] {1, 5, law},
                     new int[] {20, 999, law});
-            int[] lifts = {999, 0, 500, 999, 5};
-            for (int i = 0; i < lifts.length; i++) {
-                due("lift " + i + " by " + law, lifts[i], x.lift(i));
-            }
+            dueLifts("by " + law, x, 0, 999, 0, 500, 999, 5);
             due("lift 14, the half, by " + law, 502, x.lift(14));
         }
     }
@@ -389,10 +386,7 @@ public final class EdgesOfTermsTest extends Checks {
         for (int law = 0; law < 4; law++) {
             CamMaker x = Cams.cam(3, new int[] {2, 0, law}, new int[] {2, 1, law}, new int[] {2, 0, law},
                     new int[] {2, 999, law}, new int[] {16, 3, law});
-            int[] lifts = {3, 2, 0, 1, 1, 1, 0, 500, 999};
-            for (int i = 0; i < lifts.length; i++) {
-                due("lift " + i + " by " + law, lifts[i], x.lift(i));
-            }
+            dueLifts("by " + law, x, 0, 3, 2, 0, 1, 1, 1, 0, 500, 999);
         }
         // EVEN by n 4: 2 k / 4; BENT: a 8th, the half, 7 8ths of 4; SMOOTH: 53 / 512 of 256.
         dueQuarters(0, 2, 1, 1, 2, 2, 1, 1);
@@ -401,10 +395,7 @@ public final class EdgesOfTermsTest extends Checks {
         dueQuarters(2, 256, 27, 128, 230, 230, 128, 27);
         // A third up or down is less than a half.
         CamMaker y = Cams.cam(0, new int[] {3, 1, 0}, new int[] {3, 0, 0}, new int[] {18, 0, 0});
-        int[] lifts = {0, 0, 1, 1, 1, 0, 0};
-        for (int i = 0; i < lifts.length; i++) {
-            due("lift " + i + " by thirds", lifts[i], y.lift(i));
-        }
+        dueLifts("by thirds", y, 0, 0, 0, 1, 1, 1, 0, 0);
     }
 
     /** The three LIFTS between 0 and h in 4 STEPS, and the three of the way back. */
@@ -419,10 +410,7 @@ public final class EdgesOfTermsTest extends Checks {
     private static void liftByBentAboutTheHalf() {
         about("if 2 k is n at most");
         CamMaker x = Cams.cam(0, new int[] {5, 100, 1}, new int[] {6, 0, 1}, new int[] {13, 0, 0});
-        int[] lifts = {0, 8, 32, 68, 92, 100, 94, 78, 50, 22, 6, 0};
-        for (int i = 0; i < lifts.length; i++) {
-            due("lift " + i, lifts[i], x.lift(i));
-        }
+        dueLifts("BENT", x, 0, 0, 8, 32, 68, 92, 100, 94, 78, 50, 22, 6, 0);
         CamMaker y = Cams.cam(0, new int[] {60, 999, 1}, new int[] {59, 0, 1}, new int[] {1, 0, 0});
         due("lift 29, k 29 of 60", 467, y.lift(29));
         due("lift 30, k 30 of 60", 500, y.lift(30));
@@ -868,15 +856,6 @@ public final class EdgesOfTermsTest extends Checks {
         due("count 13", 1, z.count(13));
         z.drop();
         due("count 13, not WHOLE", 0, z.count(13));
-    }
-
-    private static void dueBest(String what, CamMaker x, int second, int third, int good, int... laws) {
-        for (int i = 0; i < 12; i++) {
-            due(what + ": best " + i, i < laws.length ? laws[i] : NONE, x.best(i));
-        }
-        due(what + ": best 12", second, x.best(12));
-        due(what + ": best 13", third, x.best(13));
-        due(what + ": best 14", good, x.best(14));
     }
 
     private static void dueSizes(CamMaker x, int law, int next, int second, int third) {

@@ -38,12 +38,6 @@ public final class PromisesTest extends Checks {
         end();
     }
 
-    private static void dueLifts(String what, CamMaker x, int from, int... lifts) {
-        for (int i = 0; i < lifts.length; i++) {
-            due(what + ", lift " + (from + i), lifts[i], x.lift(from + i));
-        }
-    }
-
     private static void newObject() {
         about("promise 1");
         CamMaker x = new CamMaker();
@@ -803,14 +797,6 @@ public final class PromisesTest extends Checks {
         dueBad(y, 3, 6, 12);
     }
 
-    private static void dueBad(CamMaker x, int what, int... steps) {
-        due("bad " + what + " NONE", steps.length, x.bad(what, NONE));
-        for (int i = 0; i < steps.length; i++) {
-            due("bad " + what + " " + i, steps[i], x.bad(what, i));
-        }
-        due("bad " + what + " " + steps.length, NONE, x.bad(what, steps.length));
-    }
-
     private static void top() {
         about("promise 26");
         CamMaker x = Cams.sample();
@@ -885,18 +871,6 @@ public final class PromisesTest extends Checks {
         due("marked 0 0, not WHOLE", 3, x.marked(0, 0));
         due("marked 0 2, not WHOLE", 20, x.marked(0, 2));
         due("marked 0 3, not WHOLE", NONE, x.marked(0, 3));
-    }
-
-    private static void dueBest(String what, CamMaker x, int second, int third, int good, int... laws) {
-        for (int i = 0; i < laws.length; i++) {
-            due(what + ": best " + i, laws[i], x.best(i));
-        }
-        for (int i = laws.length; i < 12; i++) {
-            due(what + ": best " + i, NONE, x.best(i));
-        }
-        due(what + ": best 12", second, x.best(12));
-        due(what + ": best 13", third, x.best(13));
-        due(what + ": best 14", good, x.best(14));
     }
 
     private static void best() {
